@@ -1674,12 +1674,14 @@ public final class WordWar {
 
     /** Searches sets of words by rising bits, so that of like ones the first one found has the least bits. */
     private static final class Chooser {
+        static final int WIDTH = MOST_WORDS + 1;
+
         final int[] worth = new int[MOST_WORDS];
         final int[] clash = new int[MOST_WORDS];
         final long[] low = new long[MOST_WORDS];
         final long[] high = new long[MOST_WORDS];
         // What the words up to one can bring at most, by how many may still come.
-        final int[] bound = new int[MOST_WORDS * (MOST_WORDS + 1)];
+        final int[] bound = new int[MOST_WORDS * WIDTH];
         int offered;
         int usable;
         int most;
@@ -1707,10 +1709,11 @@ public final class WordWar {
                     usable |= 1 << w;
                 }
             }
-            fillBounds();
+            int places = Math.max(0, Math.min(room, MOST_WORDS));
+            fillBounds(places);
             most = floor;
             bits = 0;
-            choose(MOST_WORDS - 1, Math.max(0, Math.min(room, MOST_WORDS)), lowStock, highStock, 0, 0);
+            choose(MOST_WORDS - 1, places, lowStock, highStock, 0, 0);
             return most;
         }
 
@@ -1718,15 +1721,15 @@ public final class WordWar {
             return (lowStock & highStock & Words.GUARDS) == Words.GUARDS;
         }
 
-        private void fillBounds() {
-            int width = MOST_WORDS + 1;
+        private void fillBounds(int places) {
             for (int w = 0; w < MOST_WORDS; w++) {
                 int itsWorth = has(usable, w) ? worth[w] : 0;
-                bound[w * width] = 0;
-                for (int room = 1; room < width; room++) {
-                    int without = w == 0 ? 0 : bound[(w - 1) * width + room];
-                    int with = itsWorth + (w == 0 ? 0 : bound[(w - 1) * width + room - 1]);
-                    bound[w * width + room] = Math.max(without, with);
+                int at = w * WIDTH;
+                bound[at] = 0;
+                for (int room = 1; room <= places && room < WIDTH; room++) {
+                    int without = w == 0 ? 0 : bound[at - WIDTH + room];
+                    int with = itsWorth + (w == 0 ? 0 : bound[at - WIDTH + room - 1]);
+                    bound[at + room] = Math.max(without, with);
                 }
             }
         }
@@ -1737,7 +1740,7 @@ public final class WordWar {
                 most = sum;
                 bits = chosen;
             }
-            if (w < 0 || room < 1 || sum + bound[w * (MOST_WORDS + 1) + room] <= most) {
+            if (w < 0 || room < 1 || sum + bound[w * WIDTH + room] <= most) {
                 return;
             }
             choose(w - 1, room, lowStock, highStock, sum, chosen);
@@ -1830,6 +1833,7 @@ public final class WordWar {
         // By a letter: the letters that must stand ahead of it (bits).
         private final int[] must = new int[LETTERS];
         // By a set of letters: rows of these that may stand first, rows of the others that may follow.
+        // A letter may follow a set that has all its "must" and not itself.
         private final int[] begun = new int[SETS];
         private final int[] ended = new int[SETS];
         private final long[] rows = new long[LETTERS * LETTERS];
@@ -1904,17 +1908,15 @@ public final class WordWar {
             }
         }
 
-        private boolean canFollow(int set, int letter) {
-            return !has(set, letter) && (must[letter] & ~set) == 0;
-        }
-
         private void fillBegun() {
             Arrays.fill(begun, 0);
             begun[0] = 1;
             for (int set = 0; set < SETS; set++) {
-                for (int letter = 0; letter < LETTERS && begun[set] != 0; letter++) {
-                    if (canFollow(set, letter)) {
-                        begun[set | 1 << letter] += begun[set];
+                int ways = begun[set];
+                for (int letter = 0; letter < LETTERS && ways != 0; letter++) {
+                    int bit = 1 << letter;
+                    if ((set & bit | must[letter] & ~set) == 0) {
+                        begun[set | bit] += ways;
                     }
                 }
             }
@@ -1923,12 +1925,15 @@ public final class WordWar {
         private void fillEnded() {
             Arrays.fill(ended, 0);
             ended[SETS - 1] = 1;
-            for (int set = SETS - 1; set >= 0; set--) {
+            for (int set = SETS - 2; set >= 0; set--) {
+                int ways = 0;
                 for (int letter = 0; letter < LETTERS && begun[set] != 0; letter++) {
-                    if (canFollow(set, letter)) {
-                        ended[set] += ended[set | 1 << letter];
+                    int bit = 1 << letter;
+                    if ((set & bit | must[letter] & ~set) == 0) {
+                        ways += ended[set | bit];
                     }
                 }
+                ended[set] = ways;
             }
         }
 
@@ -1939,7 +1944,7 @@ public final class WordWar {
             for (int i = 0; i <= where && i < LETTERS; i++) {
                 next = NONE;
                 for (int letter = 0; letter < LETTERS && next == NONE; letter++) {
-                    if (canFollow(set, letter)) {
+                    if ((set & 1 << letter | must[letter] & ~set) == 0) {
                         next = letter;
                     }
                 }
@@ -1965,9 +1970,11 @@ public final class WordWar {
         private void fillRows() {
             Arrays.fill(rows, 0);
             for (int set = 0; set < SETS; set++) {
-                for (int a = 0; a < LETTERS && begun[set] != 0; a++) {
-                    if (canFollow(set, a)) {
-                        addRows(set, a, (long) begun[set] * ended[set | 1 << a]);
+                int ways = begun[set];
+                for (int a = 0; a < LETTERS && ways != 0; a++) {
+                    int bit = 1 << a;
+                    if ((set & bit | must[a] & ~set) == 0) {
+                        addRows(set, a, (long) ways * ended[set | bit]);
                     }
                 }
             }
@@ -1975,7 +1982,7 @@ public final class WordWar {
 
         private void addRows(int set, int a, long n) {
             for (int b = a + 1; b < LETTERS; b++) {
-                if (!has(set, b)) {
+                if ((set >> b & 1) == 0) {
                     rows[a * LETTERS + b] += n;
                 }
             }
