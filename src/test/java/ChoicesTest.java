@@ -11,6 +11,7 @@ public final class ChoicesTest {
         atOnceLimits();
         exchange();
         exchangeCosts();
+        exchangeOfOneSideOnly();
         exchanged();
         home();
         peace();
@@ -293,6 +294,28 @@ public final class ChoicesTest {
         Due.is("17: 4 and 5", war.exchange(0, 3), 9);
     }
 
+    private static void exchangeOfOneSideOnly() {
+        WordWar war = new WordWar();
+        Due.lexicon(war, 0, "ab");
+        Due.lexicon(war, 1, "c,b");
+        Due.law(war, "v5(1=1)");
+        Due.reserve(war, 0, "ad");
+        Due.reserve(war, 1, "b");
+        Due.is("17: side 1 would lose b", war.exchange(0, 0), 0);
+        Due.reserve(war, 1, "bb");
+        Due.is("17: side 1 would gain nothing by d", war.exchange(0, 0), 0);
+        Due.reserve(war, 0, "ac");
+        Due.is("17: c for b", war.exchange(0, 0), 1);
+        Due.is("17: c", war.exchange(0, 1), 2);
+        Due.lexicon(war, 0, "bc");
+        Due.reserve(war, 0, "c");
+        Due.is("17: side 0 would give what it needs", war.exchange(0, 0), 0);
+        Due.is("17: asked by 1", war.exchange(1, 0), 0);
+        Due.reserve(war, 0, "cc");
+        Due.is("17: it has another one", war.exchange(0, 0), 1);
+        Due.is("17: together", war.exchange(0, 3), 10);
+    }
+
     private static void exchanged() {
         WordWar war = new WordWar();
         Due.reserve(war, 0, "aab");
@@ -330,11 +353,16 @@ public final class ChoicesTest {
         Due.orders(war, 1, "+ba;+aa");
         Due.is("19: none", war.home(0, 1), false);
         Due.is("19: side 1 loses ba", Due.orders(war, 1, "ba>ba"), 1);
-        Due.is("19: side 1 has none of side 0's", war.home(0, 1), false);
+        Due.is("19: side 0 has lost none", war.home(0, 1), false);
         Due.is("19: side 0 loses ba", Due.orders(war, 0, "ba>aa"), 1);
         Due.is("19: side 0's", war.count(160) * 10 + war.count(161), 11);
         Due.is("19: side 1's", war.count(172) * 10 + war.count(173), 11);
         Due.is("19: not so many", war.home(0, 2), false);
+        war.reserve(0, 0, 5);
+        war.reserve(1, 0, 5);
+        Due.is("19: not so many, whatever is in the reserves", war.home(0, 2), false);
+        war.reserve(0, 0, 0);
+        war.reserve(1, 0, 0);
         Due.is("19: n 0", war.home(0, 0), false);
         Due.is("19: n -1", war.home(0, -1), false);
         Due.is("19: letter 12", war.home(12, 1), false);
@@ -373,6 +401,10 @@ public final class ChoicesTest {
         peace("b", "a", "ab");
         peace("abc", "cab", "cabc");
         peace("acb", "abc", "abcb");
+        peace("abac", "cab", "cabac");
+        peace("cabd", "abcd", "cabcd");
+        peace("aabbccdd", "ddaabbcc", "ddaabbccdd");
+        peace("abcdabcd", "dcbadcba", "abcdabcbadcba");
         peace("abcdefgh", "ijklijkl", "abcdefghijklijkl");
         peace("bdbd", "acac", "abcacdbd");
         WordWar war = new WordWar();

@@ -14,6 +14,7 @@ public final class OrdersTest {
         draws();
         judging();
         turns();
+        turnTenths();
         turnLimits();
         Due.end();
     }
@@ -255,24 +256,29 @@ public final class OrdersTest {
         Due.is("10: all of side 0", war.turn(), 2);
         Due.is("10: a", war.count(112), 1);
         Due.is("10: b", war.count(113), 1);
-        Due.law(war, "d5(1=1)");
-        WordWar tenths = new WordWar();
-        Due.law(tenths, "d5(1=1)");
-        int due = 0;
-        x = 77;
-        tenths.seed(x);
-        for (int i = 0; i < 12; i++) {
-            tenths.reserve(0, i, 5);
-            x = (int) ((25173L * x + 13849) % 65536);
-            due += x % 10 < 5 ? 1 : 0;
+    }
+
+    /** Each letter has a draw of its own, side 0's first: it goes if that is below d. */
+    private static void turnTenths() {
+        for (int tenths = 0; tenths <= 10; tenths++) {
+            WordWar war = new WordWar();
+            Due.law(war, "d" + tenths + "(1=1)");
+            war.seed(77 * tenths);
+            int x = 77 * tenths;
+            int[] due = new int[24];
+            for (int i = 0; i < 24; i++) {
+                war.reserve(i / 12, i % 12, 5);
+                due[i] += 5;
+                x = (int) ((25173L * x + 13849) % 65536);
+                boolean goes = x % 10 < tenths;
+                due[i] -= goes ? 1 : 0;
+                due[(i + 12) % 24] += goes ? 1 : 0;
+            }
+            war.turn();
+            for (int i = 0; i < 24; i++) {
+                Due.is("10: d " + tenths, war.count(100 + i), due[i]);
+            }
         }
-        tenths.turn();
-        int back = 0;
-        for (int i = 0; i < 12; i++) {
-            back += 5 - tenths.count(100 + i);
-        }
-        Due.is("10: by the draws", back <= due, true);
-        Due.is("10: none is lost", tenths.count(14) + tenths.count(15), 60);
     }
 
     private static void turnLimits() {
