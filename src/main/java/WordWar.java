@@ -1435,7 +1435,8 @@ public final class WordWar {
                 }
                 if (kind == IF_SO || kind == IF_NOT) {
                     int holds = pop();
-                    if (holds != 0 == (kind == IF_SO)) {
+                    boolean jumps = (holds != 0) == (kind == IF_SO);
+                    if (jumps) {
                         push(holds);
                         at = number;
                     }
@@ -1573,22 +1574,13 @@ public final class WordWar {
         }
 
         private void readPiece(int open) {
-            if (text.peek() == '!') {
+            int first = text.peek();
+            if (first == '!' || first == '(') {
                 if (opens(open)) {
-                    readPiece(open + 1);
-                    target.put(Law.NOT, 0);
+                    readOpened(first, open + 1);
                 }
-            } else if (text.peek() == '(') {
-                if (opens(open)) {
-                    readCondition(open + 1);
-                    text.pass(')');
-                }
-            } else {
-                readComparison(open);
+                return;
             }
-        }
-
-        private void readComparison(int open) {
             readSum(open);
             int sign = text.peek();
             if (text.fault != 0 || placeOf("<>=", sign) == NONE) {
@@ -1598,6 +1590,16 @@ public final class WordWar {
             text.at++;
             readSum(open);
             putSign(sign);
+        }
+
+        private void readOpened(int first, int open) {
+            if (first == '!') {
+                readPiece(open);
+                target.put(Law.NOT, 0);
+            } else {
+                readCondition(open);
+                text.pass(')');
+            }
         }
 
         private void readSum(int open) {
