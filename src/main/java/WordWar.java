@@ -140,13 +140,9 @@ public final class WordWar {
     // ---- orders
 
     public int orders(int side, int n) {
-        if (!isSide(side) || !tape.holdsText(n, 1, 160)) {
-            return NONE;
-        }
-        tape.open(n);
-        acts.read(tape);
-        if (tape.fault != 0) {
-            return tape.fault;
+        int refusal = readActs(side, n);
+        if (refusal != 0) {
+            return refusal;
         }
         int done = 0;
         for (int i = 0; i < acts.size; i++) {
@@ -158,13 +154,9 @@ public final class WordWar {
     }
 
     public int judged(int side, int n) {
-        if (!isSide(side) || !tape.holdsText(n, 1, 160)) {
-            return NONE;
-        }
-        tape.open(n);
-        acts.read(tape);
-        if (tape.fault != 0) {
-            return tape.fault;
+        int refusal = readActs(side, n);
+        if (refusal != 0) {
+            return refusal;
         }
         int drawnBefore = drawn;
         armies[0].saveTo(judging[0]);
@@ -177,6 +169,16 @@ public final class WordWar {
         armies[1].loadFrom(judging[1]);
         drawn = drawnBefore;
         return first;
+    }
+
+    /** 0 if the acts of a side's orders are read; else why they are not: NONE or a fault. */
+    private int readActs(int side, int n) {
+        if (!isSide(side) || !tape.holdsText(n, 1, 160)) {
+            return NONE;
+        }
+        tape.open(n);
+        acts.read(tape);
+        return tape.fault;
     }
 
     public int turn() {
