@@ -2,6 +2,7 @@
 final class Due {
     private static int asked = 0;
     private static int wrong = 0;
+    private static String about = "";
 
     private Due() {
     }
@@ -10,8 +11,17 @@ final class Due {
         asked++;
         if (got != want) {
             wrong++;
-            System.out.println(call + " answered " + got + ", due is " + want);
+            System.out.println(about + call + " answered " + got + ", due is " + want);
         }
+    }
+
+    /** What stands ahead of each wrong answer from now on. */
+    static void setAbout(String newAbout) {
+        about = newAbout;
+    }
+
+    static int asked() {
+        return asked;
     }
 
     static void is(String call, boolean got, boolean want) {
@@ -78,6 +88,48 @@ final class Due {
         for (int letter = 0; letter < 12; letter++) {
             war.reserve(side, letter, n[letter]);
         }
+    }
+
+    /** An object with lexicons (words with a , between two) of which some stand; the reserves are empty then. */
+    static WordWar armed(String lexicon0, String standing0, String lexicon1, String standing1) {
+        WordWar war = new WordWar();
+        arm(war, 0, lexicon0, standing0);
+        arm(war, 1, lexicon1, standing1);
+        return war;
+    }
+
+    static void arm(WordWar war, int side, String lexicon, String standing) {
+        if (!lexicon.isEmpty()) {
+            is("lexicon " + lexicon, lexicon(war, side, lexicon), lexicon.split(",").length);
+        }
+        form(war, side, standing);
+    }
+
+    /** Gives a side the letters of these words, and no others, and forms them. */
+    static void form(WordWar war, int side, String standing) {
+        if (!standing.isEmpty()) {
+            reserve(war, side, standing.replace(",", ""));
+            is("formed " + standing, orders(war, side, "+" + standing.replace(",", ";+")), standing.split(",").length);
+        }
+    }
+
+    private static final int[] COUNTED = {0, 6, 10, 20, 100, 124, 130, 154, 160, 184, 190, 214, 220, 232};
+
+    /** All that count() tells, but for the tape: 135 calls. */
+    static String state(WordWar war) {
+        StringBuilder state = new StringBuilder();
+        for (int i = 0; i < COUNTED.length; i += 2) {
+            for (int what = COUNTED[i]; what < COUNTED[i + 1]; what++) {
+                if (what != 2) {
+                    state.append(what).append(':').append(war.count(what)).append(' ');
+                }
+            }
+        }
+        return state.toString();
+    }
+
+    static void same(String call, String got, String want) {
+        is(call + ": " + got + " for " + want, got.equals(want), true);
     }
 
     static void end() {

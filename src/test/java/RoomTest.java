@@ -21,7 +21,7 @@ public final class RoomTest {
             }
         }
         face.sort((a, b) -> a.getName().compareTo(b.getName()));
-        for (int seed = 0; seed < 60; seed++) {
+        for (int seed = 0; seed < 480; seed++) {
             edges(new Random(seed), face);
         }
         room();
@@ -34,7 +34,7 @@ public final class RoomTest {
         Due.lexicon(war, 1, "ab,b,bc,cb,cba,bbbbbbbb,kl");
         Due.law(war, "vs/[m-2]+t(!t%i=1|1=1);fr(1=1);pr/2(q>s);d5(h>0);w1/x(y>2)");
         int thrown = 0;
-        for (int i = 0; i < 3000; i++) {
+        for (int i = 0; i < 220; i++) {
             Method method = face.get(random.nextInt(face.size()));
             Object[] told = new Object[method.getParameterCount()];
             for (int k = 0; k < told.length; k++) {
@@ -67,7 +67,7 @@ public final class RoomTest {
         long thread = Thread.currentThread().getId();
         WordWar war = new WordWar();
         long least = Long.MAX_VALUE;
-        for (int again = 0; again < 20; again++) {
+        for (int again = 0; again < 5; again++) {
             long before = threads.getThreadAllocatedBytes(thread);
             everyCall(war);
             least = Math.min(least, threads.getThreadAllocatedBytes(thread) - before);
