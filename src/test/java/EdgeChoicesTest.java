@@ -36,6 +36,9 @@ public final class EdgeChoicesTest {
                 EdgeChoicesTest::lettersAreThere);
         Edge.of(Edge.TERMS, "both gain, if what BEST is worth grows for each (for the one that asks by more than w)",
                 EdgeChoicesTest::growsForEach);
+        Edge.of(Edge.TERMS, "a SIDE gives one LETTER of its RESERVE for another LETTER of the other SIDE's RESERVE: both gain, if what BEST is worth grows for each",
+                EdgeChoicesTest::givenIsGone);
+        Edge.of(Edge.TERMS, "EXCHANGE: a SIDE gives one LETTER of its RESERVE", EdgeChoicesTest::deadDontMatter);
         Edge.of(Edge.TERMS, "how many twos (given, gotten); the one by which both together gain most (without w; of like ones the first).",
                 EdgeChoicesTest::mostTogether);
     }
@@ -117,6 +120,17 @@ public final class EdgeChoicesTest {
         }
         best(war, 4, 15);
         Due.is("nothing is formed", war.count(12), 0);
+        // One letter for two words, be it any: two letters for xx, or one for x.
+        for (char letter = 'a'; letter <= 'l'; letter++) {
+            war = Due.armed(letter + "" + letter + "," + letter, "", "", "");
+            Due.law(war, "v3(m=2);v1(1=1)");
+            int[] worth = {0, 1, 3, 4, 4};
+            int[] bits = {0, 2, 1, 3, 3};
+            for (int n = 0; n < 5; n++) {
+                war.reserve(0, letter - 'a', n);
+                best(war, worth[n], bits[n]);
+            }
+        }
     }
 
     private static void sixAtMost() {
@@ -132,6 +146,12 @@ public final class EdgeChoicesTest {
         Due.law(war, "v1(1=1)");
         Due.reserve(war, 0, "abc");
         best(war, 1, 2);
+        Due.is("b is formed", Due.orders(war, 0, "+b"), 1);
+        best(war, 0, 0);
+        Due.is("a is dissolved", Due.orders(war, 0, "-a"), 1);
+        best(war, 1, 1);
+        Due.is("the same words by other numbers", Due.lexicon(war, 0, "c,l,a,b"), 4);
+        best(war, 1, 4);
     }
 
     private static void worthMost() {
@@ -347,6 +367,13 @@ public final class EdgeChoicesTest {
         exchange(war, 1, 1, 1, 0, 2);
         Due.reserve(war, 0, "");
         exchange(war, 0, 0, -2, -2, -2);
+        // Twelve words of each side.
+        war = Due.armed("aa,ba,ca,da,ea,fa,ga,ha,ia,ja,ka,la", "", "ab,bb,cb,db,eb,fb,gb,hb,ib,jb,kb,lb", "");
+        Due.law(war, "v1(1=1)");
+        Due.reserve(war, 0, "bl");
+        Due.reserve(war, 1, "al");
+        exchange(war, 0, 1, 1, 0, 2);
+        exchange(war, 1, 1, 0, 1, 2);
         // The first and the last letter.
         war = Due.armed("l", "", "a", "");
         Due.law(war, "v1(1=1)");
@@ -388,6 +415,33 @@ public final class EdgeChoicesTest {
         exchange(war, 0, 0, -2, -2, -2);
     }
 
+    private static void givenIsGone() {
+        // Side 0 needs its only a, side 1 its only b.
+        WordWar war = Due.armed("ab,a", "", "ab,b", "");
+        Due.law(war, "v3(m=2);v1(1=1)");
+        Due.reserve(war, 0, "a");
+        Due.reserve(war, 1, "b");
+        exchange(war, 0, 0, -2, -2, -2);
+        Due.reserve(war, 0, "aa");
+        exchange(war, 0, 0, -2, -2, -2);
+        Due.reserve(war, 1, "bb");
+        exchange(war, 0, 1, 0, 1, 4);
+        exchange(war, 1, 1, 1, 0, 4);
+    }
+
+    private static void deadDontMatter() {
+        for (char letter = 'b'; letter <= 'l'; letter++) {
+            WordWar war = Due.armed("a", "a", letter + "," + "dddddddd".replace('d', letter), "dddddddd".replace('d', letter));
+            Due.law(war, "f8(1=1);v1(1=1)");
+            Due.is("eight die", Due.orders(war, 0, "a>" + "dddddddd".replace('d', letter)), 1);
+            Due.is("a stands no more", Due.orders(war, 0, "-a"), 1);
+            Due.is("one word is left", Due.lexicon(war, 1, "" + letter), 1);
+            Due.reserve(war, 0, "" + letter);
+            Due.reserve(war, 1, "a");
+            exchange(war, 1, 1, 0, letter - 'a', 2);
+        }
+    }
+
     private static void mostTogether() {
         WordWar war = Due.armed("ab,dl", "", "fe,gh", "");
         Due.law(war, "v1(1=1)");
@@ -426,7 +480,9 @@ public final class EdgeChoicesTest {
             {"aaaaaaaa", "aaaaaaaa", "aaaaaaaa"}, {"aaaaaaaa", "bbbbbbbb", "aaaaaaaabbbbbbbb"},
             {"abcdefgh", "h", "abcdefgh"}, {"h", "abcdefgh", "abcdefgh"}, {"abcdefgh", "hgfedcba", "abcdefghgfedcba"},
             {"abababab", "babababa", "ababababa"}, {"lllllllk", "lllllllj", "llllllljk"},
-            {"ac", "bc", "abc"}, {"ca", "cb", "cab"}, {"abc", "acb", "abcb"}};
+            {"ac", "bc", "abc"}, {"ca", "cb", "cab"}, {"abc", "acb", "abcb"}, {"ba", "ac", "bac"}, {"ac", "ba", "bac"},
+            {"cab", "abc", "cabc"}, {"abc", "cab", "cabc"}, {"dabc", "abcd", "dabcd"}, {"hgabcdef", "abcdefhg", "hgabcdefhg"},
+            {"abcdefhg", "hgabcdef", "hgabcdefhg"}, {"bcda", "abcd", "abcda"}, {"lkj", "akj", "alkj"}};
         for (String[] row : rows) {
             WordWar war = Due.armed(row[0], "", row[1], "");
             peace(war, row[2]);

@@ -308,6 +308,8 @@ public final class EdgeLawTest {
             holds(two[0] + ">" + two[1], two[0] > two[1]);
             holds(two[0] + "=" + two[1], two[0] == two[1]);
             holds("!" + two[0] + "=" + two[1], two[0] != two[1]);
+            holds("!" + two[0] + "<" + two[1], two[0] >= two[1]);
+            holds("!" + two[0] + ">" + two[1], two[0] <= two[1]);
             holds("!!" + two[0] + "=" + two[1], two[0] == two[1]);
             holds("(" + two[0] + ">" + two[1] + ")", two[0] > two[1]);
         }
@@ -544,6 +546,12 @@ public final class EdgeLawTest {
         Due.is("behind an & that holds", worth("v1(1=1&1/0=0|1=1);v2(1=1)"), 2);
         Due.is("a clause behind it is asked anew", worth("v1(1/0=0);v2(1/0=0);v3(1=1)"), 3);
         Due.is("all of them", worth("v1(1/0=0);v2(0=1/0)"), 0);
+        WordWar war = new WordWar();
+        Due.lexicon(war, 0, "a");
+        Due.law(war, "v1(1+1*[1+1*[1+1/0]]=0);v2(1=1)");
+        for (int i = 0; i < 100; i++) {
+            Due.is("again and again", war.word(0, 0, 4), 2);
+        }
     }
 
     private static void refusedInE() {

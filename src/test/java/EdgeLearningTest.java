@@ -46,6 +46,8 @@ public final class EdgeLearningTest {
                 EdgeLearningTest::refusedCalls);
         Edge.of(Edge.TERMS, "A call that is refused (NONE, false) changes nothing but the tape, where it is told.",
                 EdgeLearningTest::refusedTexts);
+        Edge.of(Edge.TERMS, "All memory is the armies' own.", EdgeLearningTest::twoObjects);
+        Edge.of(Edge.TERMS, "All memory is the armies' own.", EdgeLearningTest::askedInAnyRow);
         Edge.of(Edge.TERMS, "The constants: `NONE = -1`: There is none.", () -> Due.is("NONE", WordWar.NONE, -1));
         Edge.of("What it is", "An object is used for at most 512 calls after it has been made", EdgeLearningTest::calls512);
     }
@@ -321,6 +323,25 @@ public final class EdgeLearningTest {
         war.soldier(5, 0, 15, 15, 1);
         Due.is("one who would come too late", war.march(0, 1, 0, 0, 0), 1);
         Due.is("at once", war.march(0, 1, 0, 0, -1), 0);
+        // In an hour 0 comes to places 1 to 3, 1 to 0 to 2, 2 to 0 alone, 3 to 1 alone.
+        war = new WordWar();
+        Due.lexicon(war, 0, "aaaa");
+        int[][] places = {{2, 0}, {1, 0}, {0, 1}, {1, 1}};
+        for (int i = 0; i < 4; i++) {
+            war.soldier(i, 0, places[i][0], places[i][1], 1);
+        }
+        Due.is("hours", war.march(0, 0, 0, 0, -1), 1);
+        int[] due = {2, 3, 1, 0};
+        for (int k = 0; k < 4; k++) {
+            Due.is("letter " + k, war.march(0, 0, 0, 0, k), due[k]);
+        }
+        war.soldier(4, 0, 0, 0, 1);
+        Due.is("4 is there, but 2 is the lesser one", war.march(0, 0, 0, 0, 0), 2);
+        war.soldier(2, 1, 0, 1, 1);
+        due[0] = 4;
+        for (int k = 0; k < 4; k++) {
+            Due.is("without 2: letter " + k, war.march(0, 0, 0, 0, k), due[k]);
+        }
     }
 
     // ---- the dead, kept, checked
@@ -360,6 +381,14 @@ public final class EdgeLearningTest {
         Due.is("five b", war.dead(1, -2), 5);
         Due.is("nine", war.dead(1, -1), 9);
         Due.is("none of side 0", war.dead(0, -2), 0);
+        war = Due.armed("a", "a", "aaa,l", "aaa,l");
+        Due.law(war, "p8(m=3);f8(m=1)");
+        war.reserve(1, 0, 9);
+        Due.is("attacks", Due.orders(war, 0, "a>aaa;a>l"), 2);
+        Due.is("prisoners are not dead", war.count(172), 3);
+        Due.is("an l alone", war.dead(1, -2), 1);
+        Due.is("an l alone", war.dead(1, -1), 1);
+        Due.is("an l alone", war.dead(1, 0), 11);
     }
 
     private static WordWar keeper() {
@@ -388,7 +417,11 @@ public final class EdgeLearningTest {
         war.soldier(7, 1, 3, 3, 3);
         Due.fight(war, "a>b");
         war.seed(5);
-        Due.is("not as before", Due.state(war).equals(before), false);
+        Due.is("none", war.learnt(-1), 0);
+        Due.is("none", war.ahead(1, 0), 0);
+        war.forget();
+        Due.fight(war, "l>k");
+        Due.is("another one", war.ahead(11, 10), ALL / 2);
         Due.is("undone", war.undo(), true);
         Due.same("as kept", Due.state(war), before);
         Due.is("learnt", war.learnt(-1), ALL / 2);
@@ -539,6 +572,95 @@ public final class EdgeLearningTest {
         Due.is("fight", Due.fight(war, "a>b>"), -1003);
         Due.is("fight", Due.fight(war, "a>ab"), -5000);
         Due.same("nothing has changed", Due.state(war), before);
+    }
+
+    private static void twoObjects() {
+        WordWar alone = keeper();
+        alone.keep();
+        alone.turn();
+        WordWar one = keeper();
+        WordWar other = keeper();
+        one.keep();
+        other.reserve(0, 3, 77);
+        other.keep();
+        Due.law(other, "d1(1=1)");
+        Due.lexicon(other, 0, "l");
+        Due.order(other, 1, "lkjihgfedcba");
+        other.strength(2, 50);
+        other.forget();
+        other.seed(4);
+        other.feed(0, 0, 0, 0, 0);
+        one.turn();
+        Due.same("the other one changes nothing", Due.state(one), Due.state(alone));
+        Due.is("nor its tape", one.count(2), 0);
+        Due.is("undone", one.undo(), true);
+        alone.undo();
+        Due.same("nor what is kept", Due.state(one), Due.state(alone));
+    }
+
+    /** One of the calls that only ask. */
+    private static long ask(WordWar war, int call) {
+        switch (call) {
+            case 0:
+                return war.best(0, 1);
+            case 1:
+                return war.best(1, 1);
+            case 2:
+                return war.against(0, 1);
+            case 3:
+                return war.atOnce(0);
+            case 4:
+                return war.exchange(0, 3);
+            case 5:
+                return war.exchange(1, 1);
+            case 6:
+                return war.spy(0, 0, 0);
+            case 7:
+                return war.spy(0, 0, 2);
+            case 8:
+                return war.spy(1, 0, 1);
+            case 9:
+                return war.peace(0, 1, 20);
+            case 10:
+                return war.learnt(-1);
+            case 11:
+                return war.skirmish(1);
+            case 12:
+                return war.ahead(3, 2);
+            case 13:
+                return war.march(0, 0, 0, 0, -1);
+            default:
+                return war.word(0, 1, 4);
+        }
+    }
+
+    private static void askedInAnyRow() {
+        int calls = 15;
+        long[] answers = new long[calls];
+        for (int call = 0; call < calls; call++) {
+            answers[call] = ask(asked(), call);
+        }
+        WordWar war = asked();
+        String before = Due.state(war);
+        for (int step = 1; step < 8; step++) {
+            for (int i = 0; i < calls; i++) {
+                int call = i * step % calls;
+                Due.is("call " + call + ", step " + step, ask(war, call), answers[call]);
+            }
+        }
+        Due.same("nothing has changed", Due.state(war), before);
+    }
+
+    private static WordWar asked() {
+        WordWar war = Due.armed("ab,aa,abc,c,d", "d", "ab,b,abb,bb,cb", "cb");
+        Due.law(war, "v1/[i-1]+s(s>1);vm(1=1);w1(x=0)");
+        Due.reserve(war, 0, "aaaabbcc");
+        Due.reserve(war, 1, "abbbc");
+        war.strength(2, 4);
+        Due.fight(war, "d>c");
+        war.soldier(3, 0, 4, 4, 2);
+        war.soldier(4, 1, 4, 4, 2);
+        return war;
     }
 
     private static void calls512() {

@@ -244,6 +244,13 @@ public final class EdgeOrdersTest {
         Due.is("the eighth letter", Due.orders(war, 0, "?aaaaaaaa.8b"), 1);
         Due.is("aaaaaaab stands", war.count(13), 4);
         Due.is("two b and an a have left", war.count(14), 2);
+        for (int k = 1; k <= 8; k++) {
+            String changed = "aaaaaaaa".substring(0, k - 1) + "l" + "aaaaaaaa".substring(k);
+            war = Due.armed("a", "", "aaaaaaaa," + changed, "aaaaaaaa");
+            Due.reserve(war, 0, "l");
+            Due.is("letter " + k, Due.orders(war, 0, "?aaaaaaaa." + k + "l"), 1);
+            Due.is(changed + " stands", war.count(13), 2);
+        }
     }
 
     private static void changedThatStands() {

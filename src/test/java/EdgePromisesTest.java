@@ -11,6 +11,7 @@ public final class EdgePromisesTest {
         exchanges();
         learning();
         keeping();
+        Edge.allPromisesAreTested();
         Edge.end();
     }
 
@@ -344,6 +345,17 @@ public final class EdgePromisesTest {
         Due.is("one again", Due.law(war, "v4(1=1)"), 1);
         Due.is("clauses", war.count(1), 1);
         Due.is("worth", war.word(0, 0, 4), 4);
+        for (int i = 0; i < 3; i++) {
+            Due.is("fourteen", Due.law(war, "v1(1=1);".repeat(13) + "v1(1=1)"), 14);
+            Due.is("two without v", Due.law(war, "p1(1=1);d3(1=1)"), 2);
+            Due.is("none of those before", war.word(0, 0, 4), 0);
+            Due.is("one without v", Due.law(war, i == 0 ? "w1(1=1)" : "w1+1+1+1+1+1+1+1+1+1(1=1)"), 1);
+            Due.is("none of those before", war.word(0, 0, 4), 0);
+        }
+        for (int i = 0; i < 9; i++) {
+            Due.is("200 bytes", Due.law(war, "v" + "1+".repeat(96) + "1" + i + "(1=1)"), 1);
+            Due.is("worth", war.word(0, 0, 4), 106 + i);
+        }
     }
 
     private static void lawFault() {
@@ -727,52 +739,63 @@ public final class EdgePromisesTest {
         Due.is("not any more", war.exchanged(0, 0, 1), false);
     }
 
-    /** Both have three a taken, side 1 one b more; the reserves are empty. */
+    /** Side 0 has lost four k and an l, side 1 three k and a j to the other one; the reserves are empty. */
     private static WordWar prisoners() {
-        WordWar war = Due.armed("a,aaa", "a,aaa", "a,aaa,b", "a,aaa,b");
+        WordWar war = Due.armed("a,kkkk,l", "a,kkkk,l", "a,kkk,j", "a,kkk,j");
         Due.law(war, "p8(1=1)");
-        Due.is("side 1 loses", Due.orders(war, 0, "a>aaa;a>b"), 2);
-        Due.is("side 0 loses", Due.orders(war, 1, "a>aaa"), 1);
-        Due.is("taken", war.count(160) * 100 + war.count(172) * 10 + war.count(173), 331);
+        Due.is("side 1 loses", Due.orders(war, 0, "a>kkk;a>j"), 2);
+        Due.is("side 0 loses", Due.orders(war, 1, "a>kkkk;a>l"), 2);
+        Due.is("k taken", war.count(170) * 10 + war.count(182), 43);
+        Due.is("l and j taken", war.count(171) * 10 + war.count(181), 11);
         return war;
     }
 
     private static void home() {
         WordWar war = prisoners();
-        Due.is("1", war.home(0, 1), true);
-        Due.is("two are left", war.count(160) * 10 + war.count(172), 22);
-        Due.is("one is home", war.count(100) * 10 + war.count(112), 11);
-        Due.is("b is not", war.count(173), 1);
-        Due.is("3", war.home(0, 3), false);
-        Due.is("2", war.home(0, 2), true);
-        Due.is("none is left", war.count(160) + war.count(172), 0);
-        Due.is("three are home", war.count(100) * 10 + war.count(112), 33);
-        Due.is("none any more", war.home(0, 1), false);
+        Due.is("1", war.home(10, 1), true);
+        Due.is("three and two are left", war.count(170) * 10 + war.count(182), 32);
+        Due.is("one is home", war.count(110) * 10 + war.count(122), 11);
+        Due.is("l and j are not", war.count(171) * 10 + war.count(181), 11);
+        Due.is("3", war.home(10, 3), false);
+        Due.is("2", war.home(10, 2), true);
+        Due.is("one of side 0 is left", war.count(170) * 10 + war.count(182), 10);
+        Due.is("three are home", war.count(110) * 10 + war.count(122), 33);
+        Due.is("none of side 1 any more", war.home(10, 1), false);
         war = prisoners();
-        war.reserve(0, 0, 996);
-        war.reserve(1, 0, 997);
-        Due.is("3", war.home(0, 3), true);
-        Due.is("996 and 3", war.count(100), 999);
-        Due.is("997 and 3: one is lost", war.count(112), 999);
-        Due.is("none is left", war.count(160) + war.count(172), 0);
+        war.reserve(0, 10, 996);
+        war.reserve(1, 10, 997);
+        Due.is("3", war.home(10, 3), true);
+        Due.is("996 and 3", war.count(110), 999);
+        Due.is("997 and 3: one is lost", war.count(122), 999);
+        Due.is("one of side 0 is left", war.count(170) * 10 + war.count(182), 10);
         Due.is("none is dead", war.count(16) + war.count(17), 0);
+        // a is the first letter, l the last one.
+        war = Due.armed("a,l", "a,l", "a,l", "a,l");
+        Due.law(war, "p8(1=1)");
+        Due.is("l of side 1, l of side 0", Due.orders(war, 0, "a>l;l>a"), 2);
+        Due.is("a of side 0", Due.orders(war, 1, "a>a;l>a"), 1);
+        Due.is("l", war.home(11, 1), true);
+        Due.is("l is home", war.count(111) * 10 + war.count(123), 11);
+        Due.is("a of side 1 alone", war.home(0, 1), false);
     }
 
     private static void homeRefused() {
         WordWar war = prisoners();
         String before = Due.state(war);
-        Due.is("0", war.home(0, 0), false);
-        Due.is("-1", war.home(0, -1), false);
-        Due.is("4", war.home(0, 4), false);
-        Due.is("b of side 1 alone", war.home(1, 1), false);
+        Due.is("0", war.home(10, 0), false);
+        Due.is("-1", war.home(10, -1), false);
+        Due.is("4: side 1 has three", war.home(10, 4), false);
+        Due.is("5", war.home(10, 5), false);
+        Due.is("j of side 1 alone", war.home(9, 1), false);
+        Due.is("l of side 0 alone", war.home(11, 1), false);
         Due.is("no c", war.home(2, 1), false);
         Due.is("letter 12", war.home(12, 1), false);
         for (int n : BEYOND) {
             Due.is("letter " + n, war.home(n, 1), false);
-            Due.is("n " + n, war.home(0, n), false);
+            Due.is("n " + n, war.home(10, n), false);
         }
         Due.same("nothing has changed", Due.state(war), before);
-        Due.is("3", war.home(0, 3), true);
+        Due.is("3", war.home(10, 3), true);
     }
 
     private static void peace() {

@@ -293,6 +293,14 @@ public final class EdgeTermsTest {
             Due.is("a is the last letter", war.place(0, w, 0), due[w]);
             Due.is("in the other side's", war.place(0, w, 1), w);
         }
+        String[] rows = {"aa,ah,al,ba,bh,bl,ca,cl,ha,hl,la,ll", "ga,gh,gl,ha,hh,hl,ka,kl,klllllll,la,lkllllll,ll"};
+        for (String row : rows) {
+            war = new WordWar();
+            Due.lexicon(war, 1, row);
+            for (int w = 0; w < 12; w++) {
+                Due.is(row, war.place(1, w, 0), w);
+            }
+        }
     }
 
     private static void endsFirst() {
